@@ -381,16 +381,16 @@ public final class PromisesTest {
         CoefTurns x = new CoefTurns(5, 4);
         x.put(0, 0, 0, 3);
         x.put(4, 3, 63, -32767);
-        x.put(1, 2, 3, 32766);
+        x.put(1, 2, 3, -32766);
+        x.put(0, 3, 9, 32767);
         due.is("crop", x.crop(0, 0, 5, 4), true);
-        int[] want = {5, 4, 3, 32767, 5, 4};
+        int[] want = {5, 4, 4, 32767, 5, 4};
         for (int which = 0; which < want.length; which++) {
             due.is("look " + which, x.look(which), want[which]);
         }
         x.transpose();
         due.is("crop", x.crop(0, 0, 3, 2), true);
         int[] wantCropped = {3, 2, 2, 32766, 5, 4};
-        x.put(2, 1, 24, 32766);
         for (int which = 0; which < want.length; which++) {
             due.is("look " + which + ", cropped", x.look(which), wantCropped[which]);
         }
