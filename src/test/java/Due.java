@@ -1,7 +1,23 @@
 /** Counts and prints the answers that are not the due ones. */
 final class Due {
+    private String sentence = "";
     private int asked = 0;
     private int wrong = 0;
+
+    /** Runs the test of one sentence of the document; one that asks for no answer fails. */
+    void of(String sentence, Runnable test) {
+        this.sentence = "[" + sentence + "] ";
+        int before = asked;
+        try {
+            test.run();
+        } catch (RuntimeException e) {
+            tellWrong("threw " + e);
+        }
+        if (asked == before) {
+            tellWrong("no answer was asked for");
+        }
+        this.sentence = "";
+    }
 
     void is(String call, long got, long want) {
         asked++;
@@ -28,7 +44,7 @@ final class Due {
 
     void tellWrong(String text) {
         wrong++;
-        System.out.println(text);
+        System.out.println(sentence + text);
     }
 
     /** Ends the test: with exit code 1 if an answer was wrong, or none was asked for. */
