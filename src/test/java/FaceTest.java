@@ -3,10 +3,14 @@ import java.lang.reflect.Field;
 import java.lang.reflect.Method;
 import java.lang.reflect.Modifier;
 import java.util.Arrays;
+import java.util.HashSet;
 import java.util.Set;
 import java.util.TreeSet;
 
-/** The face is the document's, and nothing more of the class can be seen. */
+/**
+ * The face is the document's, and nothing more of the class can be seen; and
+ * what LANGUAGE.md says of hidden members (rules 1 and 5).
+ */
 public final class FaceTest {
     private static final String[] FACE = {
         "public final class CoefTurns",
@@ -40,7 +44,30 @@ public final class FaceTest {
         for (String member : got) {
             due.is("the document has " + member, want.contains(member), true);
         }
+        namesAreApart(due);
+        staticFieldsAreFinal(due);
         due.end();
+    }
+
+    private static void namesAreApart(Due due) {
+        Set<String> publicNames = new HashSet<>();
+        for (Method method : CoefTurns.class.getMethods()) {
+            publicNames.add(method.getName());
+        }
+        for (Method method : CoefTurns.class.getDeclaredMethods()) {
+            if (Modifier.isPrivate(method.getModifiers())) {
+                String asked = "private " + method.getName() + " bears the name of a public method";
+                due.is(asked, publicNames.contains(method.getName()), false);
+            }
+        }
+    }
+
+    private static void staticFieldsAreFinal(Due due) {
+        for (Field field : CoefTurns.class.getDeclaredFields()) {
+            if (Modifier.isStatic(field.getModifiers())) {
+                due.is("static " + field.getName() + " is final", Modifier.isFinal(field.getModifiers()), true);
+            }
+        }
     }
 
     private static Set<String> seen() {

@@ -48,6 +48,8 @@ public final class RefusalsTest {
         due.of("promise 15: IndexOutOfBoundsException if there is no such place", RefusalsTest::sumOfNone);
         due.of("promise 16: NONE for any other which", RefusalsTest::lookAtNone);
         due.of("terms: a refused block follows W and H", RefusalsTest::refusalsFollowTheSize);
+        due.of("not promised: a call that only answers changes nothing", RefusalsTest::answersChangeNothing);
+        due.of("not promised: a call changes no other object", RefusalsTest::otherObjectsStay);
         due.end();
     }
 
@@ -214,6 +216,38 @@ public final class RefusalsTest {
         due.is("restored: swap with the last", x.swap(0, 0, 7, 7), true);
         due.is("restored: crop to all", x.crop(0, 0, 8, 8), true);
         due.isThrown("restored: put beside it", Due.thrownByPut(x, 8, 7, 63, 1), NO_INDEX);
+    }
+
+    private static void answersChangeNothing() {
+        changesNothing("differ", CoefTurns::differ);
+        for (int place : new int[] {0, 9, 63, -1, 64}) {
+            changesNothing("at 2, 1, " + place, x -> x.at(2, 1, place));
+            changesNothing("at 3, 1, " + place, x -> x.at(3, 1, place));
+        }
+        for (int half = -1; half <= 2; half++) {
+            int asked = half;
+            changesNothing("four of half " + asked, x -> x.four(2, 1, 7, asked));
+        }
+        for (int place = 0; place < 64; place++) {
+            int asked = place;
+            changesNothing("sum of " + asked, x -> x.sum(asked));
+        }
+        for (int which = -1; which <= 6; which++) {
+            int asked = which;
+            changesNothing("look " + asked, x -> x.look(asked));
+        }
+    }
+
+    private static void otherObjectsStay() {
+        changesNothing("calls on another object", x -> {
+            CoefTurns other = cropped();
+            other.mirror();
+            other.keep();
+            other.turn(1);
+            other.put(0, 0, 0, 1);
+            other.swap(0, 0, 1, 2);
+            other.crop(0, 0, 1, 1);
+        });
     }
 
     /** Neither the plane nor the kept one is another one after the call. */
